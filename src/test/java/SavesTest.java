@@ -1,0 +1,151 @@
+/** Promises 21 save and 22 back. */
+public final class SavesTest {
+    public static void main(String[] args) {
+        Due due = new Due("SavesTest");
+        numbers(due);
+        allComesBack(due);
+        newPartsAfterBack(due);
+        tapeStays(due);
+        savesStay(due);
+        due.end();
+    }
+
+    private static void numbers(Due due) {
+        EventWaves x = new EventWaves();
+        due.is("back without a save", x.back(0), false);
+        for (int i = 0; i < 4; i++) {
+            due.is("save", x.save(), i);
+            due.is("back", x.back(i), true);
+            due.is("back to the next one", x.back(i + 1), false);
+        }
+        due.refuses("save 4", Due.STATE, x::save);
+        due.is("back(4)", x.back(4), false);
+        due.is("back(-1)", x.back(-1), false);
+        due.is("back far beyond", x.back(Integer.MAX_VALUE), false);
+        due.is("back far below", x.back(Integer.MIN_VALUE), false);
+    }
+
+    /** A circuit in which each part of the state is other than in a new object. */
+    private static EventWaves busy() {
+        EventWaves x = Due.withNets(5);
+        x.gate(7, 0, 1, 2);
+        x.gate(0, 0, 0, 3);
+        x.delay(1, 10, 10);
+        x.check(0, 1, 0, 5);
+        x.check(1, 1, 0, 5);
+        x.spike(1);
+        x.drive(0, 10, 0);
+        x.drive(1, 10, 0);
+        x.drive(0, 28, 1);
+        x.drive(1, 29, 1);
+        x.drive(0, 31, 0);
+        x.force(4, 31, 1);
+        x.drive(4, 31, 0);
+        x.release(4, 40);
+        x.drive(0, 41, 1);
+        x.run(33);
+        return x;
+    }
+
+    private static String stateOf(EventWaves x, int nets, int checks) {
+        StringBuilder text = new StringBuilder(Due.textOf(x));
+        text.append("now ").append(x.now()).append(" levels ").append(x.levels());
+        for (int n = 0; n < nets; n++) {
+            text.append(" net ").append(x.value(n)).append(' ').append(x.counted(n));
+        }
+        for (int c = 0; c < checks; c++) {
+            text.append(" check ").append(x.broken(c));
+        }
+        return text.toString();
+    }
+
+    private static void allComesBack(Due due) {
+        EventWaves x = busy();
+        EventWaves same = busy();
+        String before = stateOf(x, 5, 2);
+        x.save();
+        x.net();
+        x.gate(1, 0, 0, 3);
+        x.delay(1, 0, 1000);
+        x.delay(0, 5, 5);
+        x.check(0, 3, 3, 7);
+        x.spike(0);
+        x.drive(5, 35, 1);
+        x.force(0, 34, 2);
+        x.drive(1, 36, 0);
+        x.drive(1, 37, 1);
+        x.run(200);
+        due.is("something has changed", stateOf(x, 5, 2).equals(before), false);
+        due.is("back", x.back(0), true);
+        due.is("what is seen", stateOf(x, 5, 2), before);
+        due.refuses("the new net is gone", Due.INDEX, () -> x.value(5));
+        due.refuses("the new gate is gone", Due.INDEX, () -> x.delay(2, 1, 1) ? 1 : 0);
+        due.refuses("the new check is gone", Due.INDEX, () -> x.broken(2));
+        due.is("the rule", x.spike(1), false);
+        due.is("the delays", x.delay(1, 10, 10), false);
+        due.is("the hand events", x.drive(0, 44, 1), same.drive(0, 44, 1));
+        due.is("what waits comes", x.run(200), same.run(200));
+        due.is("as without it", stateOf(x, 5, 2), stateOf(same, 5, 2));
+        due.is("the checks were broken", x.broken(0) > 0 && x.broken(1) > 0, true);
+    }
+
+    private static void newPartsAfterBack(Due due) {
+        EventWaves x = new EventWaves();
+        x.save();
+        x.net();
+        x.gate(1, 0, 0, 0);
+        x.delay(0, 9, 9);
+        x.check(0, 0, 0, 1000);
+        x.drive(0, 1, 0);
+        x.force(0, 2, 1);
+        x.run(50);
+        x.back(0);
+        due.is("net 0 is new again", x.net(), 0);
+        due.is("UNKNOWN", x.value(0), 2);
+        due.is("without changes", x.counted(0), 0);
+        due.is("gate 0 is new again", x.gate(2, 0, 0, 0), 0);
+        due.is("with the first delays", x.delay(0, 1, 1), false);
+        due.is("check 0 is new again", x.check(1, 0, 0, 5), 0);
+        due.is("not broken", x.broken(0), 0);
+        x.drive(0, 3, 0);
+        x.run(10);
+        due.is("neither forced nor driven", x.value(0), 2);
+    }
+
+    private static void tapeStays(Due due) {
+        EventWaves x = Due.withNets(1);
+        Due.put(x, "#5");
+        x.save();
+        Due.put(x, " 1!");
+        x.back(0);
+        due.is("the tape is not remembered", x.read(), 1);
+        x.back(0);
+        due.is("the tape stays empty", x.read(), 0);
+        due.is("the hand event is gone", x.run(10), 0);
+    }
+
+    private static void savesStay(Due due) {
+        EventWaves x = Due.withNets(1);
+        x.save();
+        x.drive(0, 5, 1);
+        x.run(5);
+        x.save();
+        x.drive(0, 9, 0);
+        x.run(9);
+        x.save();
+        due.is("back to the first", x.back(0), true);
+        due.is("now", x.now(), 0);
+        due.is("a later one is there yet", x.back(2), true);
+        due.is("now", x.now(), 9);
+        due.is("its value", x.value(0), 0);
+        x.run(100);
+        x.back(1);
+        due.is("now", x.now(), 5);
+        due.is("its value", x.value(0), 1);
+        due.is("the next number", x.save(), 3);
+        x.run(50);
+        x.back(3);
+        due.is("now", x.now(), 5);
+        due.refuses("no more saves", Due.STATE, x::save);
+    }
+}
