@@ -10,6 +10,7 @@ public final class EventsTest {
         run(due);
         orderOfHands(due);
         orderOfGates(due);
+        earlierGatesFirst(due);
         handsBeforeGates(due);
         lowerNetsFirst(due);
         spike(due);
@@ -171,6 +172,25 @@ public final class EventsTest {
         x.drive(2, 40, 1);
         x.run(50);
         due.is("back again it is OPEN between", x.counted(3), before + 2);
+    }
+
+    private static void earlierGatesFirst(Due due) {
+        EventWaves x = Due.withNets(4);
+        for (int i = 0; i < 3; i++) {
+            x.gate(0, 0, 0, 1 + i);
+        }
+        x.delay(0, 20, 20);
+        x.delay(1, 10, 10);
+        x.delay(2, 15, 15);
+        x.drive(0, 5, 1);
+        due.is("gates by their times", x.run(100), 4);
+        due.is("gates by their times", Due.textOf(x), "#5\n1!\n#15\n1#\n#20\n1$\n#25\n1\"\n");
+        EventWaves y = Due.withNets(3);
+        y.gate(0, 0, 0, 2);
+        y.gate(0, 0, 0, 1);
+        y.drive(0, 5, 1);
+        y.run(10);
+        due.is("at one time by their nets, not by their numbers", Due.textOf(y), "#5\n1!\n#6\n1\"\n1#\n");
     }
 
     private static void handsBeforeGates(Due due) {

@@ -7,6 +7,8 @@ public final class SavesTest {
         newPartsAfterBack(due);
         tapeStays(due);
         savesStay(due);
+        otherPartsUnderTheSameNumbers(due);
+        fullCircuit(due);
         due.end();
     }
 
@@ -25,9 +27,17 @@ public final class SavesTest {
         due.is("back far below", x.back(Integer.MIN_VALUE), false);
     }
 
-    /** A circuit in which each part of the state is other than in a new object. */
     private static EventWaves busy() {
-        EventWaves x = Due.withNets(5);
+        EventWaves x = new EventWaves();
+        busyOn(x);
+        return x;
+    }
+
+    /** Brings a new object to a state each part of which is other than at first. */
+    private static void busyOn(EventWaves x) {
+        for (int i = 0; i < 5; i++) {
+            x.net();
+        }
         x.gate(7, 0, 1, 2);
         x.gate(0, 0, 0, 3);
         x.delay(1, 10, 10);
@@ -44,7 +54,6 @@ public final class SavesTest {
         x.release(4, 40);
         x.drive(0, 41, 1);
         x.run(33);
-        return x;
     }
 
     private static String stateOf(EventWaves x, int nets, int checks) {
@@ -147,5 +156,72 @@ public final class SavesTest {
         x.back(3);
         due.is("now", x.now(), 5);
         due.refuses("no more saves", Due.STATE, x::save);
+    }
+
+    /** Two circuits grow from an empty one, and the first is come back to while the second stands. */
+    private static void otherPartsUnderTheSameNumbers(Due due) {
+        EventWaves x = new EventWaves();
+        x.save();
+        busyOn(x);
+        x.save();
+        String before = stateOf(x, 5, 2);
+        x.back(0);
+        otherOn(x);
+        x.back(1);
+        due.is("the first one again", stateOf(x, 5, 2), before);
+        EventWaves same = busy();
+        for (int t = 34; t < 60; t++) {
+            due.is("events up to " + t, x.run(t), same.run(t));
+            due.is("the state at " + t, stateOf(x, 5, 2), stateOf(same, 5, 2));
+        }
+        x.drive(1, 62, 0);
+        same.drive(1, 62, 0);
+        x.drive(0, 64, 0);
+        same.drive(0, 64, 0);
+        x.drive(1, 65, 1);
+        same.drive(1, 65, 1);
+        x.drive(0, 67, 1);
+        same.drive(0, 67, 1);
+        x.run(100);
+        same.run(100);
+        due.is("its gates and checks", stateOf(x, 5, 2), stateOf(same, 5, 2));
+        due.is("the checks were broken once more", x.broken(0) + x.broken(1), 4);
+    }
+
+    private static void otherOn(EventWaves x) {
+        for (int i = 0; i < 6; i++) {
+            x.net();
+        }
+        x.gate(5, 3, 4, 0);
+        x.gate(1, 5, 5, 1);
+        x.delay(0, 3, 4);
+        x.delay(1, 2, 2);
+        x.check(1, 5, 4, 900);
+        x.check(0, 5, 4, 900);
+        for (int i = 0; i < 40; i++) {
+            x.drive(i % 6, 3 + i, (i / 6 + i) % 4);
+        }
+        x.run(30);
+    }
+
+    private static void fullCircuit(Due due) {
+        EventWaves x = Due.withNets(24);
+        for (int i = 0; i < 32; i++) {
+            x.gate(i % 8, i % 24, i * 7 % 24, i * 5 % 24);
+        }
+        for (int i = 0; i < 20; i++) {
+            x.check(i % 2, i, i + 3, i);
+        }
+        for (int i = 0; i < 100; i++) {
+            x.drive(i % 24, i, i % 2);
+        }
+        due.is("save of a full circuit", x.save(), 0);
+        String before = stateOf(x, 24, 20);
+        long came = x.run(60);
+        String after = stateOf(x, 24, 20);
+        due.is("back to a full circuit", x.back(0), true);
+        due.is("its state", stateOf(x, 24, 20), before);
+        due.is("its events", x.run(60), came);
+        due.is("its state after them", stateOf(x, 24, 20), after);
     }
 }

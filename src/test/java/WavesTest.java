@@ -19,6 +19,8 @@ public final class WavesTest {
     private static void at(Due due) {
         EventWaves x = Due.withNets(2);
         x.drive(0, 5, 1);
+        x.run(5);
+        due.is("the very first change", x.at(0, 5), 1);
         x.drive(0, 5, 0);
         x.drive(0, 8, 3);
         x.run(10);
