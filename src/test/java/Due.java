@@ -9,6 +9,7 @@ final class Due {
     }
 
     private final String name;
+    private String sentence = "";
     private int looked;
     private int wrong;
 
@@ -16,11 +17,15 @@ final class Due {
         this.name = name;
     }
 
+    /** The sentence of the document that the answers from here on are about. */
+    void says(String words) {
+        sentence = "[" + words + "] ";
+    }
+
     void is(String what, long got, long want) {
         looked++;
         if (got != want) {
-            wrong++;
-            System.out.println(what + " answered " + got + ", due is " + want);
+            tellWrong(what + " answered " + got + ", due is " + want);
         }
     }
 
@@ -31,8 +36,7 @@ final class Due {
     void is(String what, String got, String want) {
         looked++;
         if (!got.equals(want)) {
-            wrong++;
-            System.out.println(what + " is '" + got + "', due is '" + want + "'");
+            tellWrong(what + " is '" + got + "', due is '" + want + "'");
         }
     }
 
@@ -47,8 +51,12 @@ final class Due {
             }
             got = "threw " + e;
         }
+        tellWrong(what + " " + got + ", due is " + want.getSimpleName());
+    }
+
+    private void tellWrong(String text) {
         wrong++;
-        System.out.println(what + " " + got + ", due is " + want.getSimpleName());
+        System.out.println(sentence + text);
     }
 
     /** Ends the program with exit code 1 if an answer was wrong. */

@@ -1,0 +1,209 @@
+/** The sentences of promises 21 and 22 that name a boundary, one test for each. */
+public final class SaveLimitsTest {
+    public static void main(String[] args) {
+        Due due = new Due("SaveLimitsTest");
+        fourTimes(due);
+        suchANumber(due);
+        emptyState(due);
+        butTheTape(due);
+        butWhatIsRemembered(due);
+        numbersAfterBack(due);
+        fullHands(due);
+        fullChanges(due);
+        atTheLastTime(due);
+        inTheMidstOfALoop(due);
+        due.end();
+    }
+
+    private static void fourTimes(Due due) {
+        due.says("All is remembered but the tape (four times at most): the number of what is remembered.");
+        EventWaves x = new EventWaves();
+        for (int i = 0; i < 4; i++) {
+            x.run(10 * i);
+            due.is("a save", x.save(), i);
+        }
+        due.refuses("the fifth", Due.STATE, x::save);
+        x.run(50);
+        due.refuses("the fifth, once more", Due.STATE, x::save);
+        for (int i = 3; i >= 0; i--) {
+            due.is("back", x.back(i), true);
+            due.is("its now", x.now(), 10 * i);
+            due.refuses("the fifth, after back", Due.STATE, x::save);
+        }
+    }
+
+    private static void suchANumber(Due due) {
+        due.says("whether there is such a number");
+        EventWaves x = new EventWaves();
+        for (int count = 0; count <= 4; count++) {
+            for (int no : new int[] {-1, count, 4, 5, Integer.MIN_VALUE, Integer.MAX_VALUE}) {
+                due.is("back to " + no + " of " + count, x.back(no), false);
+            }
+            for (int i = 0; i < count; i++) {
+                due.is("back to " + i + " of " + count, x.back(i), true);
+            }
+            if (count < 4) {
+                x.save();
+            }
+        }
+    }
+
+    private static void emptyState(Due due) {
+        due.says("All but the tape (and what is remembered) becomes as it was remembered");
+        EventWaves x = new EventWaves();
+        x.save();
+        x.net();
+        x.gate(5, 0, 0, 0);
+        x.check(0, 0, 0, 5);
+        x.spike(1);
+        x.drive(0, 5, 1);
+        x.drive(0, 9, 0);
+        x.run(7);
+        x.back(0);
+        due.is("a save counts on", x.save(), 1);
+        EventWaves same = new EventWaves();
+        same.save();
+        same.save();
+        due.is("an empty object again", Story.of(x), Story.of(same));
+    }
+
+    private static void butTheTape(Due due) {
+        due.says("All is remembered but the tape");
+        EventWaves x = Due.withNets(1);
+        Due.put(x, "#5 1!");
+        x.save();
+        due.is("a save leaves the tape", x.read(), 1);
+        x.back(0);
+        due.is("what was read is not told", x.run(9), 0);
+        x.back(0);
+        due.is("the tape does not come back", x.read(), 0);
+        Due.put(x, "#6 0!");
+        x.back(0);
+        due.is("nor does it go", x.read(), 1);
+    }
+
+    private static void butWhatIsRemembered(Due due) {
+        due.says("(and what is remembered)");
+        EventWaves x = Due.withNets(1);
+        x.save();
+        x.drive(0, 5, 1);
+        x.run(5);
+        x.save();
+        x.back(0);
+        due.is("a later one is there yet", x.back(1), true);
+        due.is("its value", x.value(0), 1);
+        x.drive(0, 6, 0);
+        x.run(6);
+        x.back(1);
+        due.is("and it is as it was", x.value(0), 1);
+        due.is("with no event more", x.run(9), 0);
+        x.back(0);
+        due.is("so is the first one", x.value(0), 2);
+    }
+
+    private static void numbersAfterBack(Due due) {
+        due.says("becomes as it was remembered");
+        EventWaves x = Due.withNets(23);
+        for (int i = 0; i < 31; i++) {
+            x.gate(0, 0, 0, 1);
+        }
+        for (int i = 0; i < 19; i++) {
+            x.check(0, 0, 1, 1);
+        }
+        x.save();
+        for (int turn = 0; turn < 2; turn++) {
+            due.is("the last net", x.net(), 23);
+            due.is("the last gate", x.gate(0, 23, 0, 1), 31);
+            due.is("the last check", x.check(0, 23, 1, 1), 19);
+            due.refuses("no net more", Due.STATE, x::net);
+            due.refuses("no gate more", Due.STATE, () -> x.gate(0, 0, 0, 1));
+            due.refuses("no check more", Due.STATE, () -> x.check(0, 0, 1, 1));
+            x.back(0);
+            due.refuses("the net is gone", Due.INDEX, () -> x.value(23));
+            due.refuses("the gate is gone", Due.INDEX, () -> x.delay(31, 1, 1) ? 1 : 0);
+            due.refuses("the check is gone", Due.INDEX, () -> x.broken(19));
+        }
+    }
+
+    private static void fullHands(Due due) {
+        due.says("All but the tape (and what is remembered) becomes as it was remembered");
+        EventWaves x = Due.withNets(1);
+        for (int i = 0; i < 99; i++) {
+            x.drive(0, i, i % 2);
+        }
+        x.save();
+        due.is("the hundredth", x.drive(0, 99, 1), 100);
+        x.save();
+        x.run(200);
+        x.back(1);
+        due.refuses("100 wait again", Due.STATE, () -> x.drive(0, 200, 0));
+        due.is("and come", x.run(200), 100);
+        x.back(0);
+        due.is("99 wait again", x.drive(0, 150, 1), 100);
+        due.is("and come", x.run(200), 100);
+        due.is("the last one", x.change(99, 0), 150);
+    }
+
+    private static EventWaves ring(int delay) {
+        EventWaves x = Due.withNets(3);
+        x.gate(2, 0, 1, 2);
+        x.gate(1, 2, 2, 1);
+        x.drive(0, 10, 0);
+        x.run(15);
+        x.delay(0, delay, delay);
+        x.delay(1, delay, delay);
+        x.drive(0, 20, 1);
+        return x;
+    }
+
+    private static void fullChanges(Due due) {
+        due.says("becomes as it was remembered");
+        EventWaves x = ring(1);
+        for (int i = 0; i < 3; i++) {
+            x.run(100000);
+        }
+        x.save();
+        int kept = x.change(0, 3);
+        String text = Due.textOf(x);
+        for (int i = 0; i < 2; i++) {
+            x.run(100000);
+        }
+        x.save();
+        String fullText = Due.textOf(x);
+        due.is("full", x.change(0, 3), 600);
+        x.back(0);
+        due.is("as many as before", x.change(0, 3), kept);
+        due.refuses("the others are gone", Due.INDEX, () -> x.change(kept, 0));
+        due.is("the text", Due.textOf(x), text);
+        x.back(1);
+        due.is("full again", x.change(0, 3), 600);
+        due.is("the full text", Due.textOf(x), fullText);
+    }
+
+    private static void atTheLastTime(Due due) {
+        due.says("becomes as it was remembered");
+        EventWaves x = Due.withNets(1);
+        x.run(3);
+        x.save();
+        x.run(1000000000L);
+        due.refuses("no time before now", Due.ARGUMENT, () -> x.run(4));
+        x.back(0);
+        due.is("now", x.now(), 3);
+        due.is("there is time again", x.run(4), 0);
+        x.back(0);
+        due.refuses("at() beyond now again", Due.ARGUMENT, () -> x.at(0, 4));
+        due.refuses("and no time before that", Due.ARGUMENT, () -> x.drive(0, 2, 1));
+    }
+
+    private static void inTheMidstOfALoop(Due due) {
+        due.says("becomes as it was remembered");
+        EventWaves x = ring(0);
+        due.is("a loop", x.run(1000), -3);
+        x.save();
+        x.drive(0, 20, 0);
+        x.run(1000);
+        x.back(0);
+        due.is("now", x.now(), 20);
+        due.is("it waits yet", x.run(1000), -3);
+    }
+}
