@@ -21,6 +21,7 @@ public final class CheckLimitsTest {
         holdForEachValue(due);
         noChangeNoBreak(due);
         registersAreAsked(due);
+        thirtyTwoRegisters(due);
         otherGatesAreNot(due);
         behindAllOthers(due);
         severalChecks(due);
@@ -318,6 +319,26 @@ public final class CheckLimitsTest {
         z.drive(1, 7, 1);
         z.run(9);
         due.is("broken without a register", z.broken(0), 1);
+    }
+
+    private static void thirtyTwoRegisters(Due due) {
+        due.says("each register with B the clock and A the data is asked");
+        EventWaves x = Due.withNets(24);
+        for (int g = 0; g < 32; g++) {
+            x.gate(7, 0, 1, 2 + g % 22);
+        }
+        x.check(SET_UP, 1, 0, 3);
+        x.drive(1, 5, 0);
+        x.drive(0, 5, 1);
+        x.drive(1, 15, 1);
+        x.drive(1, 25, 0);
+        due.is("each takes 1", x.run(30), 36);
+        x.drive(0, 31, 0);
+        x.drive(1, 32, 1);
+        due.is("each takes UNKNOWN", x.run(40), 34);
+        for (int n = 2; n < 24; n++) {
+            due.is("net " + n, x.value(n), 2);
+        }
     }
 
     private static void otherGatesAreNot(Due due) {

@@ -7,6 +7,7 @@ public final class EventLimitsTest {
         timeAtFirst(due);
         delayToEachValue(due);
         askedForAnotherValue(due);
+        askedForTheSecondNet(due);
         nothingWaits(due);
         sameValueWaits(due);
         sameValueWaitsWithOneBehind(due);
@@ -117,6 +118,23 @@ public final class EventLimitsTest {
         y.run(200);
         due.is("the same value again does not ask: before", y.at(1, 121), 2);
         due.is("the same value again does not ask", y.at(1, 122), 0);
+    }
+
+    /** Kinds 0 and 1 give the same as before then; by rule 1 what is behind counts from the later time. */
+    private static void askedForTheSecondNet(Due due) {
+        due.says("When a net that is a gate's A or B takes another value at a time t, the gate is asked at once");
+        for (int kind = 0; kind < 2; kind++) {
+            EventWaves x = Due.withNets(3);
+            x.gate(kind, 0, 1, 2);
+            x.delay(0, 10, 10);
+            x.spike(1);
+            x.drive(0, 20, 1);
+            x.drive(0, 22, 0);
+            x.drive(1, 25, 1);
+            x.run(50);
+            due.is("kind " + kind + ", before", x.at(2, 34), 2);
+            due.is("kind " + kind, x.at(2, 35), kind);
+        }
     }
 
     private static void nothingWaits(Due due) {
@@ -231,6 +249,9 @@ public final class EventLimitsTest {
             due.is("v", x.run(end), end == 120 ? 0 : 1);
             due.is("the value", x.value(1), 0);
             due.is("UNKNOWN was seen", x.counted(1), 3);
+            int latest = x.change(0, 3) - 1;
+            due.is("at u", x.change(latest - 1, 0), 120);
+            due.is("and v at its time", x.change(latest, 0), end);
         }
     }
 

@@ -18,52 +18,6 @@ public final class RefusalsTest {
         due.end();
     }
 
-    /** Nets 0 to 4, gates and checks, with hand events and gates' values that wait, a tape, and one save. */
-    private static EventWaves busy() {
-        EventWaves x = Due.withNets(5);
-        x.gate(7, 0, 1, 2);
-        x.gate(0, 0, 0, 3);
-        x.delay(1, 10, 12);
-        x.check(0, 1, 0, 5);
-        x.check(1, 1, 0, 5);
-        x.drive(0, 10, 0);
-        x.drive(1, 10, 0);
-        x.save();
-        x.spike(1);
-        x.drive(0, 28, 1);
-        x.drive(1, 29, 1);
-        x.drive(0, 31, 0);
-        x.force(4, 31, 1);
-        x.drive(4, 31, 0);
-        x.release(4, 40);
-        x.drive(0, 41, 1);
-        x.run(33);
-        Due.put(x, "#80 1! 0\" #85 x$");
-        return x;
-    }
-
-    /** As many of all as there can be, and a tape that tells one hand event more. */
-    private static EventWaves full() {
-        EventWaves x = Due.withNets(24);
-        for (int i = 0; i < 32; i++) {
-            x.gate(i % 8, i % 24, i * 7 % 24, i * 5 % 24);
-            x.delay(i, i % 4, i % 5);
-        }
-        for (int i = 0; i < 20; i++) {
-            x.check(i % 2, i, i + 3, i);
-        }
-        for (int i = 0; i < 4; i++) {
-            x.drive(i, i, 1);
-            x.run(i);
-            x.save();
-        }
-        for (int i = 0; i < 100; i++) {
-            x.drive(i % 24, 5 + i, i / 24 % 2);
-        }
-        Due.put(x, "#200 1!");
-        return x;
-    }
-
     /** The stories below would show nothing if they were the same for all states. */
     private static void storiesTellStatesApart(Due due) {
         due.says(CHANGES_NOTHING);
@@ -84,10 +38,10 @@ public final class RefusalsTest {
         calls.put("read", EventWaves::read);
         calls.put("save", EventWaves::save);
         calls.put("back", x -> x.back(0) ? 1 : 0);
-        String same = Story.of(busy());
-        due.is("the same state, the same story", Story.of(busy()), same);
+        String same = Story.of(States.busy());
+        due.is("the same state, the same story", Story.of(States.busy()), same);
         calls.forEach((what, call) -> {
-            EventWaves x = busy();
+            EventWaves x = States.busy();
             call.applyAsLong(x);
             due.is("a story after " + what + " is another one", Story.of(x).equals(same), false);
         });
@@ -124,7 +78,7 @@ public final class RefusalsTest {
         }
         calls.put("delay of the next gate", x -> x.delay(2, 3, 4) ? 1 : 0);
         calls.put("broken of the next check", x -> x.broken(2));
-        changesNothing(due, Due.INDEX, Story.of(busy()), busy(), calls);
+        changesNothing(due, Due.INDEX, Story.of(States.busy()), States.busy(), calls);
     }
 
     private static void wrongArgumentChangesNothing(Due due) {
@@ -149,7 +103,7 @@ public final class RefusalsTest {
         for (long wrong : new long[] {-1, 34, Long.MIN_VALUE, Long.MAX_VALUE}) {
             calls.put("at " + wrong, x -> x.at(0, wrong));
         }
-        changesNothing(due, Due.ARGUMENT, Story.of(busy()), busy(), calls);
+        changesNothing(due, Due.ARGUMENT, Story.of(States.busy()), States.busy(), calls);
     }
 
     private static void tooManyChangesNothing(Due due) {
@@ -163,12 +117,12 @@ public final class RefusalsTest {
         calls.put("check", x -> x.check(0, 0, 1, 5));
         calls.put("read", EventWaves::read);
         calls.put("save", EventWaves::save);
-        changesNothing(due, Due.STATE, Story.of(full()), full(), calls);
+        changesNothing(due, Due.STATE, Story.of(States.full()), States.full(), calls);
     }
 
     private static void firstNamedIsThrown(Due due) {
         due.says("Methods throw what their comments name, the one named first when several would do.");
-        EventWaves x = full();
+        EventWaves x = States.full();
         due.refuses("gate: net, too many, kind", Due.INDEX, () -> x.gate(8, 24, 0, 0));
         due.refuses("gate: B, too many, kind", Due.INDEX, () -> x.gate(8, 0, 24, 0));
         due.refuses("gate: OUT, too many, kind", Due.INDEX, () -> x.gate(8, 0, 0, 24));
@@ -185,7 +139,7 @@ public final class RefusalsTest {
         due.refuses("check: too many, kind", Due.STATE, () -> x.check(2, 0, 0, 5));
         due.refuses("check: too many, limit", Due.STATE, () -> x.check(0, 0, 0, 1001));
         due.refuses("at: net, time", Due.INDEX, () -> x.at(24, -1));
-        EventWaves y = busy();
+        EventWaves y = States.busy();
         due.refuses("gate: net, kind", Due.INDEX, () -> y.gate(-1, 0, 5, 0));
         due.refuses("drive: net, value", Due.INDEX, () -> y.drive(5, 50, 4));
         due.refuses("force: net, time", Due.INDEX, () -> y.force(5, 32, 1));
@@ -197,14 +151,14 @@ public final class RefusalsTest {
     /** Calls that tell by their answer that they did nothing. */
     private static void answersThatChangeNothing(Due due) {
         due.says("whether there is such a number");
-        String same = Story.of(busy());
-        EventWaves x = busy();
+        String same = Story.of(States.busy());
+        EventWaves x = States.busy();
         for (int no : new int[] {-1, 1, 4, Integer.MIN_VALUE, Integer.MAX_VALUE}) {
             due.is("back to " + no, x.back(no), false);
         }
         due.is("the story after it", Story.of(x), same);
         due.says("whether it is another one");
-        EventWaves y = busy();
+        EventWaves y = States.busy();
         due.is("the same rule", y.spike(1), false);
         due.is("the same delays", y.delay(1, 10, 12), false);
         due.is("the story after it", Story.of(y), same);

@@ -5,6 +5,10 @@ public final class SaveLimitsTest {
         fourTimes(due);
         suchANumber(due);
         emptyState(due);
+        busyState(due);
+        otherPartsUnderItsNumbers(due);
+        whatIsBehindComesBack(due);
+        checksComeBack(due);
         butTheTape(due);
         butWhatIsRemembered(due);
         numbersAfterBack(due);
@@ -65,6 +69,109 @@ public final class SaveLimitsTest {
         same.save();
         same.save();
         due.is("an empty object again", Story.of(x), Story.of(same));
+    }
+
+    private static void busyState(Due due) {
+        due.says("All but the tape (and what is remembered) becomes as it was remembered");
+        EventWaves x = States.busy();
+        x.save();
+        x.net();
+        x.gate(1, 0, 0, 3);
+        x.delay(0, 5, 7);
+        x.delay(1, 0, 1000);
+        x.check(0, 3, 3, 7);
+        x.spike(0);
+        x.drive(5, 35, 1);
+        x.force(0, 34, 2);
+        x.drive(1, 36, 0);
+        x.drive(1, 37, 1);
+        x.run(200);
+        due.is("back", x.back(1), true);
+        EventWaves same = States.busy();
+        same.save();
+        due.is("the busy object again", Story.of(x), Story.of(same));
+    }
+
+    /** What is remembered stands while another circuit grows in its place, from the empty one that is saved first. */
+    private static void otherPartsUnderItsNumbers(Due due) {
+        due.says("becomes as it was remembered");
+        EventWaves x = new EventWaves();
+        x.save();
+        States.busyOn(x);
+        x.save();
+        x.back(0);
+        States.otherOn(x);
+        x.back(2);
+        EventWaves same = new EventWaves();
+        same.save();
+        States.busyOn(same);
+        same.save();
+        due.is("the busy object again", Story.of(x), Story.of(same));
+        EventWaves y = new EventWaves();
+        y.save();
+        States.busyOn(y);
+        y.back(0);
+        States.otherOn(y);
+        EventWaves other = new EventWaves();
+        States.otherOn(other);
+        due.is("the other one has nothing of it", seen(y), seen(other));
+    }
+
+    private static String seen(EventWaves x) {
+        StringBuilder text = new StringBuilder();
+        for (int i = 0; i < 30; i++) {
+            text.append("run ").append(x.run(x.now() + 1)).append(' ');
+        }
+        for (int c = 0; c < 2; c++) {
+            text.append("check ").append(x.broken(c)).append(' ');
+        }
+        for (int n = 0; n < 6; n++) {
+            text.append("net ").append(x.value(n)).append(' ').append(x.counted(n)).append(' ');
+        }
+        return text.append(Due.textOf(x)).toString();
+    }
+
+    private static void whatIsBehindComesBack(Due due) {
+        due.says("becomes as it was remembered");
+        EventWaves x = Due.withNets(2);
+        x.gate(0, 0, 0, 1);
+        x.delay(0, 10, 10);
+        x.spike(1);
+        x.save();
+        x.drive(0, 10, 1);
+        x.drive(0, 12, 0);
+        x.run(13);
+        x.save();
+        x.back(0);
+        x.drive(0, 11, 0);
+        x.drive(0, 19, 1);
+        x.run(20);
+        x.back(1);
+        due.is("UNKNOWN, which it has", x.run(20), 1);
+        due.is("not before its time", x.run(21), 0);
+        due.is("what was behind", x.run(22), 1);
+        due.is("its value", x.value(1), 0);
+    }
+
+    private static void checksComeBack(Due due) {
+        due.says("becomes as it was remembered");
+        EventWaves x = Due.withNets(4);
+        x.save();
+        x.check(0, 1, 0, 5);
+        x.drive(1, 10, 0);
+        x.drive(0, 18, 1);
+        x.run(18);
+        x.save();
+        x.back(0);
+        x.check(1, 3, 2, 900);
+        x.drive(0, 3, 1);
+        x.run(18);
+        x.back(1);
+        x.drive(1, 20, 1);
+        x.run(20);
+        due.is("a rise behind a change that is remembered", x.broken(0), 1);
+        x.back(1);
+        due.is("not yet broken", x.broken(0), 0);
     }
 
     private static void butTheTape(Due due) {
