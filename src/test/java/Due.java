@@ -1,5 +1,12 @@
+import java.util.function.Supplier;
+
 /** Compares answers with those that are due and counts the wrong ones. */
 final class Due {
+    /** The document promises nothing of an object behind so many calls. */
+    static final int MOST_CALLS = 512;
+    private static final int BYTES_OF_ONE = 64;
+    private static final int MOST_PARTS = 1000;
+
     static final Class<? extends RuntimeException> INDEX = IndexOutOfBoundsException.class;
     static final Class<? extends RuntimeException> STATE = IllegalStateException.class;
     static final Class<? extends RuntimeException> ARGUMENT = IllegalArgumentException.class;
@@ -83,13 +90,29 @@ final class Due {
 
     static String textOf(EventWaves x) {
         StringBuilder text = new StringBuilder();
-        for (int i = 0; i < 100000; i++) {
-            try {
-                text.append((char) x.write(i));
-            } catch (IndexOutOfBoundsException e) {
-                return text.toString();
+        addBytes(x, MOST_CALLS, text);
+        return text.toString();
+    }
+
+    /** A text that is too long for one object's calls: each of many objects that are made alike writes some bytes. */
+    static String textOf(Supplier<EventWaves> maker) {
+        StringBuilder text = new StringBuilder();
+        for (int part = 0; part < MOST_PARTS; part++) {
+            if (!addBytes(maker.get(), BYTES_OF_ONE, text)) {
+                break;
             }
         }
         return text.toString();
+    }
+
+    private static boolean addBytes(EventWaves x, int count, StringBuilder text) {
+        for (int i = 0; i < count; i++) {
+            try {
+                text.append((char) x.write(text.length()));
+            } catch (IndexOutOfBoundsException e) {
+                return false;
+            }
+        }
+        return true;
     }
 }

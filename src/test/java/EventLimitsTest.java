@@ -709,15 +709,17 @@ public final class EventLimitsTest {
         due.is("net 1", x.value(1), 2);
     }
 
-    /** Two nets that take turns, three changes before, so that change 597 and on are made one by one. */
+    /** Two nets that take turns, one change at a time: the last ones are made one by one. */
     private static void sixHundred(Due due) {
         due.says("Changes are kept, the first 600.");
         EventWaves x = ring(1);
         for (int i = 0; i < 3; i++) {
             x.run(100000);
         }
-        long time = x.now();
-        for (int kept = x.change(0, 3); kept < 605; kept++) {
+        long time = x.now() + 590 - x.change(0, 3);
+        x.run(time);
+        due.is("one at a time", x.change(0, 3), 590);
+        for (int kept = 590; kept < 605; kept++) {
             due.is("kept", x.change(0, 3), Math.min(600, kept));
             due.is("the nets' changes", x.counted(0) + x.counted(1) + x.counted(2), kept);
             time++;

@@ -2,8 +2,8 @@ import java.util.Random;
 
 /** Long runs of mixed calls, right and wrong ones, on the class and on the model: every answer must be the same. */
 public final class ModelTest {
-    private static final int RUNS = 1500;
-    private static final int CALLS = 512;
+    private static final int RUNS = 4000;
+    private static final int LAST_LOOKS = 90;
     private static final String TAPE_BYTES = "##0011xxzz!!\"\"#$ \n\t\r123456789?";
 
     private final Random random;
@@ -16,6 +16,7 @@ public final class ModelTest {
     private final boolean wild;
     private int netCount;
     private int gateCount;
+    private int calls;
 
     private ModelTest(Due due, long seed) {
         this.due = due;
@@ -29,12 +30,13 @@ public final class ModelTest {
     public static void main(String[] args) {
         Due due = new Due("ModelTest");
         for (int run = 0; run < RUNS; run++) {
-            new ModelTest(due, run).go(run);
+            due.says("run " + run);
+            new ModelTest(due, run).go();
         }
         due.end();
     }
 
-    private void go(int run) {
+    private void go() {
         for (int i = 0; i < netAim; i++) {
             both("net", x::net, model::net);
         }
@@ -42,19 +44,31 @@ public final class ModelTest {
         for (int i = 0; i < gateAim; i++) {
             addGate();
         }
-        for (int i = netAim + gateAim; i < CALLS; i++) {
+        while (calls < Due.MOST_CALLS - LAST_LOOKS) {
             step();
         }
-        due.is("run " + run + ", its text", Due.textOf(x), model.text());
+        lookAtTheEnd();
+    }
+
+    private void lookAtTheEnd() {
         for (int n = 0; n < netCount; n++) {
             int net = n;
             both("value " + n, () -> x.value(net), () -> model.value(net));
             both("counted " + n, () -> x.counted(net), () -> model.counted(net));
         }
+        int length = model.text().length();
+        for (int n = 0; n < 20; n++) {
+            int i = n < 8 ? length + 1 - n : random.nextInt(length + 1);
+            both("write " + i, () -> x.write(i), () -> model.write(i));
+        }
     }
 
+    /** Leaves out what would go beyond the calls that the document promises answers to. */
     private void both(String what, Due.Call mine, Due.Call wanted) {
-        due.is(what, outcome(mine), outcome(wanted));
+        if (calls < Due.MOST_CALLS) {
+            calls++;
+            due.is(what, outcome(mine), outcome(wanted));
+        }
     }
 
     private static String outcome(Due.Call call) {

@@ -54,8 +54,17 @@ public final class SaveLimitsTest {
 
     private static void emptyState(Due due) {
         due.says("All but the tape (and what is remembered) becomes as it was remembered");
+        due.is("an empty object again", Story.of(SaveLimitsTest::emptyAgain), Story.of(SaveLimitsTest::emptySaved));
+    }
+
+    private static EventWaves emptySaved() {
         EventWaves x = new EventWaves();
         x.save();
+        return x;
+    }
+
+    private static EventWaves emptyAgain() {
+        EventWaves x = emptySaved();
         x.net();
         x.gate(5, 0, 0, 0);
         x.check(0, 0, 0, 5);
@@ -64,17 +73,22 @@ public final class SaveLimitsTest {
         x.drive(0, 9, 0);
         x.run(7);
         x.back(0);
-        due.is("a save counts on", x.save(), 1);
-        EventWaves same = new EventWaves();
-        same.save();
-        same.save();
-        due.is("an empty object again", Story.of(x), Story.of(same));
+        return x;
     }
 
     private static void busyState(Due due) {
         due.says("All but the tape (and what is remembered) becomes as it was remembered");
+        due.is("the busy object again", Story.of(SaveLimitsTest::busyAgain), Story.of(SaveLimitsTest::busySaved));
+    }
+
+    private static EventWaves busySaved() {
         EventWaves x = States.busy();
         x.save();
+        return x;
+    }
+
+    private static EventWaves busyAgain() {
+        EventWaves x = busySaved();
         x.net();
         x.gate(1, 0, 0, 3);
         x.delay(0, 5, 7);
@@ -86,35 +100,36 @@ public final class SaveLimitsTest {
         x.drive(1, 36, 0);
         x.drive(1, 37, 1);
         x.run(200);
-        due.is("back", x.back(1), true);
-        EventWaves same = States.busy();
-        same.save();
-        due.is("the busy object again", Story.of(x), Story.of(same));
+        x.back(1);
+        return x;
     }
 
     /** What is remembered stands while another circuit grows in its place, from the empty one that is saved first. */
     private static void otherPartsUnderItsNumbers(Due due) {
         due.says("becomes as it was remembered");
-        EventWaves x = new EventWaves();
-        x.save();
-        States.busyOn(x);
-        x.save();
-        x.back(0);
-        States.otherOn(x);
-        x.back(2);
-        EventWaves same = new EventWaves();
-        same.save();
-        States.busyOn(same);
-        same.save();
-        due.is("the busy object again", Story.of(x), Story.of(same));
-        EventWaves y = new EventWaves();
-        y.save();
+        due.is("the busy object again", Story.of(SaveLimitsTest::busyBesideAnother), Story.of(SaveLimitsTest::busyBehindEmpty));
+        EventWaves y = emptySaved();
         States.busyOn(y);
         y.back(0);
         States.otherOn(y);
         EventWaves other = new EventWaves();
         States.otherOn(other);
         due.is("the other one has nothing of it", seen(y), seen(other));
+    }
+
+    private static EventWaves busyBehindEmpty() {
+        EventWaves x = emptySaved();
+        States.busyOn(x);
+        x.save();
+        return x;
+    }
+
+    private static EventWaves busyBesideAnother() {
+        EventWaves x = busyBehindEmpty();
+        x.back(0);
+        States.otherOn(x);
+        x.back(2);
+        return x;
     }
 
     private static String seen(EventWaves x) {
@@ -263,28 +278,41 @@ public final class SaveLimitsTest {
         return x;
     }
 
-    private static void fullChanges(Due due) {
-        due.says("becomes as it was remembered");
+    private static EventWaves ringSaved() {
         EventWaves x = ring(1);
         for (int i = 0; i < 3; i++) {
             x.run(100000);
         }
         x.save();
-        int kept = x.change(0, 3);
-        String text = Due.textOf(x);
-        for (int i = 0; i < 2; i++) {
-            x.run(100000);
-        }
+        return x;
+    }
+
+    private static EventWaves ringSavedTwice() {
+        EventWaves x = ringSaved();
+        x.run(100000);
+        x.run(100000);
         x.save();
-        String fullText = Due.textOf(x);
-        due.is("full", x.change(0, 3), 600);
+        return x;
+    }
+
+    private static EventWaves ringBackTo(int saved) {
+        EventWaves x = ringSavedTwice();
         x.back(0);
+        x.back(saved);
+        return x;
+    }
+
+    private static void fullChanges(Due due) {
+        due.says("becomes as it was remembered");
+        int kept = ringSaved().change(0, 3);
+        due.is("not yet full", kept > 300 && kept < 600, true);
+        due.is("full", ringSavedTwice().change(0, 3), 600);
+        EventWaves x = ringBackTo(0);
         due.is("as many as before", x.change(0, 3), kept);
         due.refuses("the others are gone", Due.INDEX, () -> x.change(kept, 0));
-        due.is("the text", Due.textOf(x), text);
-        x.back(1);
-        due.is("full again", x.change(0, 3), 600);
-        due.is("the full text", Due.textOf(x), fullText);
+        due.is("the text", Due.textOf(() -> ringBackTo(0)), Due.textOf(SaveLimitsTest::ringSaved));
+        due.is("full again", ringBackTo(1).change(0, 3), 600);
+        due.is("the full text", Due.textOf(() -> ringBackTo(1)), Due.textOf(SaveLimitsTest::ringSavedTwice));
     }
 
     private static void atTheLastTime(Due due) {

@@ -57,7 +57,11 @@ public final class SavesTest {
     }
 
     private static String stateOf(EventWaves x, int nets, int checks) {
-        StringBuilder text = new StringBuilder(Due.textOf(x));
+        return seen(x, nets, checks) + Due.textOf(x);
+    }
+
+    private static String seen(EventWaves x, int nets, int checks) {
+        StringBuilder text = new StringBuilder();
         text.append("now ").append(x.now()).append(" levels ").append(x.levels());
         for (int n = 0; n < nets; n++) {
             text.append(" net ").append(x.value(n)).append(' ').append(x.counted(n));
@@ -159,33 +163,38 @@ public final class SavesTest {
     }
 
     /** Two circuits grow from an empty one, and the first is come back to while the second stands. */
-    private static void otherPartsUnderTheSameNumbers(Due due) {
+    private static EventWaves busyBesideAnother() {
         EventWaves x = new EventWaves();
         x.save();
         busyOn(x);
         x.save();
-        String before = stateOf(x, 5, 2);
         x.back(0);
         otherOn(x);
         x.back(1);
-        due.is("the first one again", stateOf(x, 5, 2), before);
-        EventWaves same = busy();
+        return x;
+    }
+
+    private static void otherPartsUnderTheSameNumbers(Due due) {
+        due.is("the first one again", stateOf(busyBesideAnother(), 5, 2), stateOf(busy(), 5, 2));
         for (int t = 34; t < 60; t++) {
+            EventWaves x = busyBesideAnother();
+            EventWaves same = busy();
             due.is("events up to " + t, x.run(t), same.run(t));
             due.is("the state at " + t, stateOf(x, 5, 2), stateOf(same, 5, 2));
         }
-        x.drive(1, 62, 0);
-        same.drive(1, 62, 0);
-        x.drive(0, 64, 0);
-        same.drive(0, 64, 0);
-        x.drive(1, 65, 1);
-        same.drive(1, 65, 1);
-        x.drive(0, 67, 1);
-        same.drive(0, 67, 1);
-        x.run(100);
-        same.run(100);
-        due.is("its gates and checks", stateOf(x, 5, 2), stateOf(same, 5, 2));
+        EventWaves x = pushed(busyBesideAnother());
+        due.is("its gates and checks", stateOf(x, 5, 2), stateOf(pushed(busy()), 5, 2));
         due.is("the checks were broken once more", x.broken(0) + x.broken(1), 4);
+    }
+
+    private static EventWaves pushed(EventWaves x) {
+        x.run(60);
+        x.drive(1, 62, 0);
+        x.drive(0, 64, 0);
+        x.drive(1, 65, 1);
+        x.drive(0, 67, 1);
+        x.run(100);
+        return x;
     }
 
     private static void otherOn(EventWaves x) {
@@ -204,7 +213,7 @@ public final class SavesTest {
         x.run(30);
     }
 
-    private static void fullCircuit(Due due) {
+    private static EventWaves full() {
         EventWaves x = Due.withNets(24);
         for (int i = 0; i < 32; i++) {
             x.gate(i % 8, i % 24, i * 7 % 24, i * 5 % 24);
@@ -215,13 +224,30 @@ public final class SavesTest {
         for (int i = 0; i < 100; i++) {
             x.drive(i % 24, i, i % 2);
         }
+        return x;
+    }
+
+    private static EventWaves fullAgain() {
+        EventWaves x = full();
+        x.save();
+        x.run(60);
+        x.back(0);
+        return x;
+    }
+
+    private static EventWaves ranOn(EventWaves x) {
+        x.run(60);
+        return x;
+    }
+
+    private static void fullCircuit(Due due) {
+        EventWaves x = full();
         due.is("save of a full circuit", x.save(), 0);
-        String before = stateOf(x, 24, 20);
-        long came = x.run(60);
-        String after = stateOf(x, 24, 20);
         due.is("back to a full circuit", x.back(0), true);
-        due.is("its state", stateOf(x, 24, 20), before);
-        due.is("its events", x.run(60), came);
-        due.is("its state after them", stateOf(x, 24, 20), after);
+        due.is("its events", fullAgain().run(60), full().run(60));
+        due.is("its state", seen(fullAgain(), 24, 20), seen(full(), 24, 20));
+        due.is("its text", Due.textOf(SavesTest::fullAgain), Due.textOf(SavesTest::full));
+        due.is("its state after them", seen(ranOn(fullAgain()), 24, 20), seen(ranOn(full()), 24, 20));
+        due.is("its text after them", Due.textOf(() -> ranOn(fullAgain())), Due.textOf(() -> ranOn(full())));
     }
 }
